@@ -1,0 +1,59 @@
+/** Counts the calls whose answer is not the one that is due, and prints them. */
+final class Check {
+    /** A call of the face. */
+    interface Call {
+        long answer();
+    }
+
+    private final String name;
+    private int calls;
+    private int wrong;
+
+    Check(String name) {
+        this.name = name;
+    }
+
+    void due(String what, long want, Call call) {
+        String got;
+        try {
+            got = Long.toString(call.answer());
+        } catch (RuntimeException e) {
+            got = "throws." + e.getClass().getSimpleName();
+        }
+        compare(what, Long.toString(want), got);
+    }
+
+    void refused(String what, Class<? extends RuntimeException> want, Call call) {
+        String got;
+        try {
+            got = Long.toString(call.answer());
+        } catch (RuntimeException e) {
+            got = "throws." + e.getClass().getSimpleName();
+        }
+        compare(what, "throws." + want.getSimpleName(), got);
+    }
+
+    void compare(String what, String want, String got) {
+        calls++;
+        if (!want.equals(got)) {
+            wrong++;
+            System.out.println(name + ": " + what + " answered " + got + ", due is " + want);
+        }
+    }
+
+    /** The bytes of the data, as far as the object gives any. */
+    void bytes(String what, FlatStore store, int... want) {
+        due(what + ": bytes of data", want.length, () -> store.count(0));
+        for (int i = 0; i < want.length; i++) {
+            int address = i;
+            due(what + ": at(" + i + ")", want[i] & 255, () -> store.at(address));
+        }
+    }
+
+    void end() {
+        System.out.println(name + ": " + calls + " answers looked at, " + wrong + " not as due");
+        if (wrong != 0 || calls == 0) {
+            System.exit(1);
+        }
+    }
+}
