@@ -647,24 +647,29 @@ public final class FlatStore {
         }
 
         void put(int address, int number) {
-            bytes[address] = (byte) number;
-        }
-
-        int unsignedByte(int address) {
-            return holds(address) ? bytes[address] & 255 : 0;
-        }
-
-        int unsignedShort(int address) {
-            return unsignedByte(address) | unsignedByte(address + 1) << 8;
+            if (holds(address)) {
+                bytes[address] = (byte) number;
+            }
         }
 
         long signed(int address, int width) {
             long number = 0;
             for (int i = 0; i < width; i++) {
-                number |= (long) unsignedByte(address + i) << (8 * i);
+                int from = address + i;
+                if (from >= 0 && from < length) {
+                    number |= (bytes[from] & 255L) << (8 * i);
+                }
             }
             int unused = 64 - 8 * width;
             return number << unused >> unused;
+        }
+
+        int unsignedByte(int address) {
+            return (int) signed(address, 1) & 255;
+        }
+
+        int unsignedShort(int address) {
+            return (int) signed(address, 2) & 65535;
         }
 
         int capped(int address) {

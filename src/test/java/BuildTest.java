@@ -10,6 +10,9 @@ public final class BuildTest {
         allKinds();
         sharedOffsets();
         otherOffsets();
+        offsetsThatBeginAlike();
+        offsetsFarAway();
+        allOffsetsApart();
         defaults();
         negativeNumbers();
         putOnce();
@@ -52,7 +55,6 @@ public final class BuildTest {
             252, 255, 255, 255, 4, 0, 4, 0, 4, 0, 0, 0);
     }
 
-    /** Offsets that are as long, or begin alike, are others. */
     private static void otherOffsets() {
         FlatStore x = new FlatStore();
         x.field(0, 0, 0, false);
@@ -67,6 +69,80 @@ public final class BuildTest {
         check.bytes("other offsets", x,
             16, 0, 0, 0, 0, 0, 10, 0, 10, 0, 0, 0, 9, 0, 4, 0, 10, 0, 0, 0, 12, 0, 0, 0, 0, 2,
             6, 0, 8, 0, 7, 0, 6, 0, 0, 0, 0, 0, 0, 1);
+    }
+
+    /** Of two shorts and of the first one alone: the same but for how many they are. */
+    private static void offsetsThatBeginAlike() {
+        FlatStore x = new FlatStore();
+        x.field(0, 1, 0, false);
+        x.field(0, 1, 0, false);
+        x.field(1, 6, 0, false);
+        x.field(1, 6, 0, false);
+        x.make(0);
+        x.make(0);
+        x.make(1);
+        x.number(0, 0, 1);
+        x.number(0, 1, 2);
+        x.number(1, 0, 3);
+        x.link(2, 0, 0);
+        x.link(2, 1, 1);
+        for (int i = 0; i < 2; i++) {
+            check.due("the longer first", 56, () -> x.build(2));
+            check.bytes("the longer first", x,
+                12, 0, 0, 0, 8, 0, 14, 0, 8, 0, 4, 0, 8, 0, 0, 0, 16, 0, 0, 0, 28, 0, 0, 0, 0, 0,
+                6, 0, 8, 0, 6, 0, 6, 0, 0, 0, 0, 0, 3, 0, 8, 0, 8, 0, 6, 0, 4, 0, 8, 0, 0, 0, 2, 0, 1, 0);
+            x.link(2, 0, 1);
+            x.link(2, 1, 0);
+            check.due("the shorter first", 56, () -> x.build(2));
+            x.link(2, 0, 0);
+            x.link(2, 1, 1);
+        }
+    }
+
+    private static void offsetsFarAway() {
+        FlatStore x = new FlatStore();
+        for (int i = 0; i < 6; i++) {
+            x.field(1, 4, 0, true);
+        }
+        for (int table : new int[] {0, 1, 0}) {
+            x.field(2, 6, table, true);
+            x.make(table);
+        }
+        x.make(2);
+        for (int i = 0; i < 6; i++) {
+            Sample.text(x, 1, i, 12);
+        }
+        for (int i = 0; i < 3; i++) {
+            x.link(3, i, i);
+        }
+        check.due("build", 208, () -> x.build(3));
+        int[] back = {88, 255, 255, 255};
+        for (int i = 0; i < 4; i++) {
+            int address = 32 + i;
+            check.due("168 bytes back, byte " + i, back[i], () -> x.at(address));
+        }
+    }
+
+    /** As many offsets as there can be: more than the data can hold, and refused as that. */
+    private static void allOffsetsApart() {
+        FlatStore x = new FlatStore();
+        for (int i = 0; i < 5; i++) {
+            x.field(0, 0, 0, false);
+        }
+        x.field(0, 6, 0, false);
+        for (int record = 0; record < 16; record++) {
+            x.make(0);
+            for (int field = 0; field < 4; field++) {
+                x.number(record, field, record >> field & 1);
+            }
+            if (record > 0) {
+                x.link(record, 5, record - 1);
+            }
+        }
+        check.refused("16 records", IndexOutOfBoundsException.class, () -> x.build(15));
+        check.due("no data", 0, () -> x.count(0));
+        check.due("some of them", 124, () -> x.build(4));
+        check.due("all of them are there", 5, () -> x.verify(0));
     }
 
     private static void defaults() {

@@ -19,6 +19,7 @@ public final class VerifyTest {
         faults();
         verifiedUntil();
         otherTables();
+        oddSizes();
         check.end();
     }
 
@@ -151,6 +152,7 @@ public final class VerifyTest {
     private static void rows() {
         wrong("not aligned", 40, 40, 25);
         wrong("not aligned", 40, 40, 26);
+        wrong("not aligned, but for that an empty row", 40, 40, 26, 68, 0);
         wrong("behind the end", 40, 40, 40);
         wrong("far behind", 40, 43, 128);
         right("6 shorts", 2, 64, 6);
@@ -203,6 +205,12 @@ public final class VerifyTest {
         x.patch(225, 0);
         check.due("200", 1, () -> x.verify(1));
         check.due("size", 200, () -> x.size(0));
+        for (int high = 5; high <= 9; high += 2) {
+            x.patch(high, 1);
+            check.refused("a high byte at " + high, ARGUMENT, () -> x.verify(1));
+            check.due("a high byte at " + high, high - 1, x::fault);
+            x.patch(high, 0);
+        }
         x.patch(20, 201);
         check.refused("201", ARGUMENT, () -> x.verify(1));
         check.due("201", 16, x::fault);
@@ -320,6 +328,28 @@ public final class VerifyTest {
         check.due("fault", 10, x::fault);
         check.due("no table at the cursor", -1, () -> x.count(5));
         check.due("not verified", 0, () -> x.count(4));
+    }
+
+    /** The last byte of the sample is gone: what needs it is wrong. */
+    private static void oddSizes() {
+        cutByOne("the first table", 0, 0, 76);
+        cutByOne("the offsets", 20, 20, 200, 21, 255, 22, 255, 23, 255);
+        cutByOne("the size", 6, 6, 74);
+        cutByOne("the span", 8, 8, 60);
+        cutByOne("the text", 44, 72, 3);
+        cutByOne("the row", 40, 64, 6);
+        cutByOne("the other table", 36, 36, 40);
+    }
+
+    private static void cutByOne(String what, int fault, int... pairs) {
+        FlatStore x = Sample.built();
+        x.cut(79);
+        check.due(what + ": verify", 2, () -> x.verify(0));
+        for (int i = 0; i < pairs.length; i += 2) {
+            x.patch(pairs[i], pairs[i + 1]);
+        }
+        check.refused(what + ": patched", ARGUMENT, () -> x.verify(0));
+        check.due(what + ": fault", fault, x::fault);
     }
 
     private static void otherTables() {
