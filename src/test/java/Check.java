@@ -13,24 +13,21 @@ final class Check {
         this.name = name;
     }
 
-    void due(String what, long want, Call call) {
-        String got;
+    /** The answer, or the name of what the call throws. */
+    static String told(Call call) {
         try {
-            got = Long.toString(call.answer());
+            return Long.toString(call.answer());
         } catch (RuntimeException e) {
-            got = "throws." + e.getClass().getSimpleName();
+            return "throws." + e.getClass().getSimpleName();
         }
-        compare(what, Long.toString(want), got);
+    }
+
+    void due(String what, long want, Call call) {
+        compare(what, Long.toString(want), told(call));
     }
 
     void refused(String what, Class<? extends RuntimeException> want, Call call) {
-        String got;
-        try {
-            got = Long.toString(call.answer());
-        } catch (RuntimeException e) {
-            got = "throws." + e.getClass().getSimpleName();
-        }
-        compare(what, "throws." + want.getSimpleName(), got);
+        compare(what, "throws." + want.getSimpleName(), told(call));
     }
 
     void compare(String what, String want, String got) {

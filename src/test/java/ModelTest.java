@@ -24,18 +24,10 @@ public final class ModelTest {
         check.end();
     }
 
-    private static String answer(Check.Call call) {
-        try {
-            return Long.toString(call.answer());
-        } catch (RuntimeException e) {
-            return "throws." + e.getClass().getSimpleName();
-        }
-    }
-
     private String both(String what, Check.Call asked, Check.Call due) {
         calls++;
-        String want = answer(due);
-        check.compare("run " + run + ", call " + calls + ": " + what, want, answer(asked));
+        String want = Check.told(due);
+        check.compare("run " + run + ", call " + calls + ": " + what, want, Check.told(asked));
         return want;
     }
 
@@ -175,7 +167,7 @@ public final class ModelTest {
         for (int i = 0; i < model.count(0); i++) {
             int address = i;
             want.append(model.at(i)).append(' ');
-            got.append(answer(() -> store.at(address))).append(' ');
+            got.append(Check.told(() -> store.at(address))).append(' ');
         }
         check.compare("run " + run + ", call " + calls + ": bytes", want.toString(), got.toString());
     }
