@@ -5,12 +5,36 @@ final class Check {
         long answer();
     }
 
+    /** What a test does with an object. */
+    interface Deed {
+        long done(FlatStore store);
+    }
+
     private final String name;
+    private String words = "";
+    private int sentences;
     private int calls;
+    private int callsOfSentence;
     private int wrong;
 
     Check(String name) {
         this.name = name;
+    }
+
+    /** The words of the document that the answers from here on are looked at for. */
+    void sentence(String section, String quoted) {
+        needCalls();
+        words = " (" + section + ": " + quoted + ")";
+        sentences++;
+        callsOfSentence = 0;
+    }
+
+    /** A sentence without an answer would be a test that cannot fail. */
+    private void needCalls() {
+        if (sentences > 0 && callsOfSentence == 0) {
+            wrong++;
+            System.out.println(name + words + ": no answer was looked at");
+        }
     }
 
     /** The answer, or the name of what the call throws. */
@@ -32,9 +56,10 @@ final class Check {
 
     void compare(String what, String want, String got) {
         calls++;
+        callsOfSentence++;
         if (!want.equals(got)) {
             wrong++;
-            System.out.println(name + ": " + what + " answered " + got + ", due is " + want);
+            System.out.println(name + words + ": " + what + " answered " + got + ", due is " + want);
         }
     }
 
@@ -48,7 +73,9 @@ final class Check {
     }
 
     void end() {
-        System.out.println(name + ": " + calls + " answers looked at, " + wrong + " not as due");
+        needCalls();
+        System.out.println(name + ": " + sentences + " sentences, " + calls + " answers looked at, "
+            + wrong + " not as due");
         if (wrong != 0 || calls == 0) {
             System.exit(1);
         }

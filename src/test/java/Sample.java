@@ -57,18 +57,25 @@ final class Sample {
         return store;
     }
 
+    /** The most bytes that data can have, built for table 3; the other tables have no field. */
+    static FlatStore full() {
+        FlatStore store = large(3, 3, 7);
+        store.build(1);
+        return store;
+    }
+
     /**
      * Records 0 and 1 of a table of five texts and a link; all texts at their longest would make
      * 260 bytes, and the first two of record 0 may be shorter.
      */
-    static FlatStore large(int first, int second) {
+    static FlatStore large(int table, int first, int second) {
         FlatStore store = new FlatStore();
         for (int i = 0; i < 5; i++) {
-            store.field(0, 4, 0, false);
+            store.field(table, 4, 0, false);
         }
-        store.field(0, 6, 0, false);
-        store.make(0);
-        store.make(0);
+        store.field(table, 6, table, false);
+        store.make(table);
+        store.make(table);
         text(store, 0, 0, first);
         text(store, 0, 1, second);
         text(store, 0, 2, 12);
