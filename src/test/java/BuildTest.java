@@ -8,36 +8,20 @@ public final class BuildTest {
     private static final Check check = new Check("BuildTest");
 
     public static void main(String[] args) {
-        fromTheLastByteOn();
-        lowestByteFirst();
-        zerosOfAnAlignment();
-        noZerosWhereNoneAreDue();
-        recordsOnce();
-        onceInEachBuilding();
-        contentsByRisingFields();
-        texts();
-        textsBehindARecord();
-        rows();
-        rowsBehindARecord();
-        linksNotPutYet();
-        contentsAreNoFields();
-        defaults();
-        references();
-        placesOfRecords();
-        offsetsUpToTheLastOne();
-        sharedOffsets();
-        offsetsOfOtherTables();
-        offsetsThatDiffer();
-        allOffsetsApart();
-        distanceOfOffsets();
-        widestAlignment();
-        firstRecord();
-        build();
-        noSuchRecord();
-        required();
-        requiredByAnyWay();
-        tooLarge();
-        tooLargeWithLongs();
+        Runnable[] tests = {
+            BuildTest::fromTheLastByteOn, BuildTest::lowestByteFirst, BuildTest::zerosOfAnAlignment,
+            BuildTest::noZerosWhereNoneAreDue, BuildTest::recordsOnce,
+            BuildTest::onceInEachBuilding, BuildTest::contentsByRisingFields, BuildTest::texts,
+            BuildTest::textsBehindARecord, BuildTest::rows, BuildTest::rowsBehindARecord,
+            BuildTest::linksNotPutYet, BuildTest::contentsAreNoFields, BuildTest::defaults,
+            BuildTest::references, BuildTest::placesOfRecords, BuildTest::offsetsUpToTheLastOne,
+            BuildTest::sharedOffsets, BuildTest::offsetsOfOtherTables, BuildTest::offsetsThatDiffer,
+            BuildTest::offsetsThatDifferInOne, BuildTest::allOffsetsApart,
+            BuildTest::distanceOfOffsets, BuildTest::widestAlignment, BuildTest::firstRecord,
+            BuildTest::build, BuildTest::noSuchRecord, BuildTest::required,
+            BuildTest::requiredOfTheFirstAndTheLast, BuildTest::requiredByAnyWay,
+            BuildTest::tooLarge, BuildTest::tooLargeWithLongs};
+        check.all(tests);
         check.end();
     }
 
@@ -243,7 +227,8 @@ public final class BuildTest {
     }
 
     private static void rows() {
-        check.sentence("Terms", "A ROW of k: align to 4 for 2 k, the shorts from the last one on, k of 4 bytes.");
+        check.sentence("Terms", "A ROW of k: align to 4 for 2 k, the shorts from the last one on, k of 4 "
+            + "bytes.");
         int[] sizes = {24, 28, 28, 32, 32, 36, 36, 40, 40};
         int[] start = {12, 0, 0, 0, 0, 0, 6, 0, 8, 0, 4, 0, 6, 0, 0, 0, 4, 0, 0, 0};
         for (int length = 0; length < 9; length++) {
@@ -261,7 +246,8 @@ public final class BuildTest {
     }
 
     private static void rowsBehindARecord() {
-        check.sentence("Terms", "A ROW of k: align to 4 for 2 k, the shorts from the last one on, k of 4 bytes.");
+        check.sentence("Terms", "A ROW of k: align to 4 for 2 k, the shorts from the last one on, k of 4 "
+            + "bytes.");
         built("no zeros are due", behindARecord(5, 7), 1,
             12, 0, 0, 0, 8, 0, 12, 0, 8, 0, 4, 0, 8, 0, 0, 0, 8, 0, 0, 0, 16, 0, 0, 0,
             1, 0, 0, 0, 7, 0, 6, 0, 8, 0, 7, 0, 6, 0, 0, 0, 0, 0, 0, 9);
@@ -395,7 +381,8 @@ public final class BuildTest {
     }
 
     private static void offsetsUpToTheLastOne() {
-        check.sentence("Terms", "Its OFFSETS: numbers of 2 bytes: twice how many of them there are; T - B; and "
+        check.sentence("Terms", "Its OFFSETS: numbers of 2 bytes: twice how many of them there are; T - B; "
+            + "and "
             + "for each field, up to the last one that was put, T less the field's place, "
             + "or 0 if it was not put.");
         FlatStore x = withKinds(0, 0, 0, 0, 0, 0);
@@ -498,6 +485,43 @@ public final class BuildTest {
         }
     }
 
+    /** Record 0 with two fields of these kinds, record 1 with two of those, and record 2 with both. */
+    private static FlatStore twoRecords(int[] kinds, int[] otherKinds) {
+        FlatStore x = new FlatStore();
+        for (int i = 0; i < 2; i++) {
+            x.field(0, kinds[i], 0, false);
+            x.field(1, otherKinds[i], 0, false);
+            x.field(2, 6, i, false);
+        }
+        for (int table = 0; table < 3; table++) {
+            x.make(table);
+        }
+        x.link(2, 0, 0);
+        x.link(2, 1, 1);
+        return x;
+    }
+
+    /** As many of them and the same span, but one offset is another. */
+    private static void offsetsThatDifferInOne() {
+        check.sentence("Terms", "else they are put, from the last one on, and V is theirs.");
+        FlatStore x = twoRecords(new int[] {0, 0}, new int[] {0, 1});
+        x.number(0, 1, 1);
+        x.number(1, 1, 2);
+        built("in the last one", x, 2,
+            12, 0, 0, 0, 8, 0, 12, 0, 8, 0, 4, 0, 8, 0, 0, 0, 16, 0, 0, 0, 28, 0, 0, 0,
+            8, 0, 8, 0, 0, 0, 6, 0, 8, 0, 0, 0, 0, 0, 2, 0,
+            8, 0, 8, 0, 0, 0, 7, 0, 8, 0, 0, 0, 0, 0, 0, 1);
+        FlatStore y = twoRecords(new int[] {0, 2}, new int[] {1, 2});
+        y.number(0, 0, 1);
+        y.number(1, 0, 2);
+        y.number(0, 1, 3);
+        y.number(1, 1, 4);
+        built("in the one before it", y, 2,
+            12, 0, 0, 0, 8, 0, 12, 0, 8, 0, 4, 0, 8, 0, 0, 0, 16, 0, 0, 0, 32, 0, 0, 0,
+            8, 0, 12, 0, 10, 0, 4, 0, 8, 0, 0, 0, 4, 0, 0, 0, 0, 0, 2, 0,
+            8, 0, 12, 0, 11, 0, 4, 0, 8, 0, 0, 0, 3, 0, 0, 0, 0, 0, 0, 1);
+    }
+
     /** As many offsets as there can be: more than the data can hold, and refused as that. */
     private static void allOffsetsApart() {
         check.sentence("Terms", "else they are put, from the last one on, and V is theirs.");
@@ -573,6 +597,13 @@ public final class BuildTest {
         check.due("4 for a long that is the default", 12, () -> x.build(0));
         x.number(0, 0, 1);
         check.due("8 for a long", 24, () -> x.build(0));
+        FlatStore z = withKinds(3, 0);
+        z.number(0, 1, 1);
+        check.due("4 for a byte", 20, () -> z.build(0));
+        z.number(0, 0, 1);
+        built("8 for a long and a byte, where 4 would make less", z, 0,
+            16, 0, 0, 0, 0, 0, 0, 0, 8, 0, 16, 0, 8, 0, 7, 0, 8, 0, 0, 0,
+            0, 0, 0, 1, 1, 0, 0, 0, 0, 0, 0, 0);
         int[] sizes = {20, 20, 20, 24};
         for (int kind = 0; kind < 4; kind++) {
             FlatStore y = withKinds(kind);
@@ -660,6 +691,30 @@ public final class BuildTest {
             x.unset(2, 0);
             check.due("not linked any more" + what, 1, () -> x.build(4) > 12 ? 1 : 0);
         }
+    }
+
+    /** The first record and the last one of all, and one that an earlier building came to. */
+    private static void requiredOfTheFirstAndTheLast() {
+        check.sentence("Promise 9", "IllegalStateException: the record, or one that it comes to by links, "
+            + "has nothing in a required field.");
+        FlatStore x = new FlatStore();
+        x.field(0, 4, 0, true);
+        x.field(0, 6, 0, false);
+        for (int i = 0; i < 16; i++) {
+            x.make(0);
+        }
+        check.refused("the first", STATE, () -> x.build(0));
+        check.refused("the last", STATE, () -> x.build(15));
+        x.fill(15, 0);
+        x.link(15, 1, 0);
+        check.refused("the last by the first", STATE, () -> x.build(15));
+        x.unset(15, 1);
+        check.due("the last, not linked any more", 1, () -> x.build(15) > 12 ? 1 : 0);
+        check.refused("the first still", STATE, () -> x.build(0));
+        x.link(15, 1, 14);
+        check.refused("the last by the one before it", STATE, () -> x.build(15));
+        x.fill(14, 0);
+        check.due("both have it", 1, () -> x.build(15) > 12 ? 1 : 0);
     }
 
     /** Each record has five links to the one below: more ways than could be gone one by one. */

@@ -29,6 +29,19 @@ final class Check {
         callsOfSentence = 0;
     }
 
+    /** Each of the tests, though one before it could not go on. */
+    void all(Runnable... tests) {
+        for (Runnable test : tests) {
+            try {
+                test.run();
+            } catch (RuntimeException e) {
+                wrong++;
+                callsOfSentence++;
+                System.out.println(name + words + ": ended by " + e + " at " + e.getStackTrace()[0]);
+            }
+        }
+    }
+
     /** A sentence without an answer would be a test that cannot fail. */
     private void needCalls() {
         if (sentences > 0 && callsOfSentence == 0) {

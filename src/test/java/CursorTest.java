@@ -1,4 +1,5 @@
 import java.util.NoSuchElementException;
+import java.util.function.IntFunction;
 
 /** Promises 15 (top), 16 (down), 17 (value), 18 (size) and 19 (element). */
 public final class CursorTest {
@@ -14,24 +15,15 @@ public final class CursorTest {
     private static final Check check = new Check("CursorTest");
 
     public static void main(String[] args) {
-        top();
-        topOfNothing();
-        down();
-        downToNothing();
-        downNotVerified();
-        downNoSuch();
-        downOfAnotherKind();
-        value();
-        defaults();
-        edgesOfNumbers();
-        valueThrown();
-        size();
-        sizeOfNothing();
-        sizeThrown();
-        element();
-        charactersWithoutSign();
-        elementThrown();
-        elementThatIsNone();
+        Runnable[] tests = {
+            CursorTest::top, CursorTest::topOfNothing, CursorTest::down, CursorTest::downToNothing,
+            CursorTest::downNotVerified, CursorTest::downNoSuch, CursorTest::downOfAnotherKind,
+            CursorTest::value, CursorTest::defaults, CursorTest::edgesOfNumbers,
+            CursorTest::neighbours, CursorTest::valueThrown, CursorTest::size,
+            CursorTest::sizeOfNothing, CursorTest::sizeThrown, CursorTest::element,
+            CursorTest::charactersWithoutSign, CursorTest::elementThrown,
+            CursorTest::elementThatIsNone};
+        check.all(tests);
         check.end();
     }
 
@@ -54,13 +46,12 @@ public final class CursorTest {
         y.field(3, 0, 0, false);
         check.refused(what + " behind a new field", STATE, () -> deed.done(y));
         y.verify(0);
-        y.patch(0, 0);
-        Check.told(() -> y.verify(0));
+        check.refused("a short is not there", IllegalArgumentException.class, () -> y.verify(1));
         check.refused(what + " behind a fault", STATE, () -> deed.done(y));
     }
 
     /** Each field of the sample that is none, or of another kind than these. */
-    private static void otherFields(String what, int[] good, java.util.function.IntFunction<Check.Deed> call) {
+    private static void otherFields(String what, int[] good, IntFunction<Check.Deed> call) {
         FlatStore x = Sample.verified();
         for (int field : NO_FIELDS) {
             check.refused(what + " of field " + field, NO_SUCH, () -> call.apply(field).done(x));
@@ -119,7 +110,8 @@ public final class CursorTest {
     }
 
     private static void down() {
-        check.sentence("Promise 16", "The cursor goes to the table that a field of kind 6 at the cursor has: 1; "
+        check.sentence("Promise 16", "The cursor goes to the table that a field of kind 6 at the cursor "
+            + "has: 1; "
             + "if it has none, it stays: 0.");
         FlatStore x = Sample.verified();
         check.due("down", 1, () -> x.down(3));
@@ -135,7 +127,8 @@ public final class CursorTest {
     }
 
     private static void downToNothing() {
-        check.sentence("Promise 16", "The cursor goes to the table that a field of kind 6 at the cursor has: 1; "
+        check.sentence("Promise 16", "The cursor goes to the table that a field of kind 6 at the cursor "
+            + "has: 1; "
             + "if it has none, it stays: 0.");
         FlatStore x = Sample.built();
         x.unset(1, 3);
@@ -245,6 +238,30 @@ public final class CursorTest {
         }
     }
 
+    /** What lies before a number and behind it is no part of it. */
+    private static void neighbours() {
+        check.sentence("Promise 17", "The number that a field at the cursor has, or its default.");
+        for (int kind = 0; kind < 4; kind++) {
+            FlatStore x = new FlatStore();
+            for (int field = 0; field < 3; field++) {
+                x.field(0, kind, 1, false);
+            }
+            x.make(0);
+            for (int middle = 0; middle > -2; middle--) {
+                int[] numbers = {-1 - middle, middle, -1 - middle};
+                for (int field = 0; field < 3; field++) {
+                    x.number(0, field, numbers[field]);
+                }
+                x.build(0);
+                x.verify(0);
+                for (int field = 0; field < 3; field++) {
+                    int f = field;
+                    check.due("kind " + kind + ", field " + f, numbers[f], () -> x.value(f));
+                }
+            }
+        }
+    }
+
     private static void valueThrown() {
         check.sentence("Promise 17", "Thrown as by down.");
         notVerified("value", x -> x.value(0));
@@ -254,7 +271,8 @@ public final class CursorTest {
     }
 
     private static void size() {
-        check.sentence("Promise 18", "How many characters or shorts a field of kind 4 or 5 at the cursor has, "
+        check.sentence("Promise 18", "How many characters or shorts a field of kind 4 or 5 at the cursor "
+            + "has, "
             + "-1 if it has nothing.");
         FlatStore x = new FlatStore();
         x.field(0, 4, 0, false);
@@ -274,7 +292,8 @@ public final class CursorTest {
     }
 
     private static void sizeOfNothing() {
-        check.sentence("Promise 18", "How many characters or shorts a field of kind 4 or 5 at the cursor has, "
+        check.sentence("Promise 18", "How many characters or shorts a field of kind 4 or 5 at the cursor "
+            + "has, "
             + "-1 if it has nothing.");
         FlatStore x = Sample.built();
         x.unset(1, 2);

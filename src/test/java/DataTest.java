@@ -6,20 +6,12 @@ public final class DataTest {
     private static final Check check = new Check("DataTest");
 
     public static void main(String[] args) {
-        at();
-        atNone();
-        patch();
-        patchNone();
-        cut();
-        cutAndBuild();
-        cutOutside();
-        bytesOfData();
-        records();
-        fields();
-        numbersInTheBuffer();
-        verified();
-        tableAtTheCursor();
-        otherCounts();
+        Runnable[] tests = {
+            DataTest::at, DataTest::atNone, DataTest::patch, DataTest::patchNone, DataTest::cut,
+            DataTest::cutAndBuild, DataTest::cutOutside, DataTest::bytesOfData, DataTest::records,
+            DataTest::fields, DataTest::numbersInTheBuffer, DataTest::verified,
+            DataTest::tableAtTheCursor, DataTest::otherCounts};
+        check.all(tests);
         check.end();
     }
 
@@ -58,7 +50,8 @@ public final class DataTest {
     }
 
     private static void patch() {
-        check.sentence("Promise 11", "Sets a byte of the data to the lowest 8 bits of value; answers what it was.");
+        check.sentence("Promise 11", "Sets a byte of the data to the lowest 8 bits of value; answers what "
+            + "it was.");
         FlatStore x = Sample.verified();
         int[] values = {-2, 255, 256, 257, -256, 511, 127, 128, -128, -129, Integer.MIN_VALUE,
             Integer.MAX_VALUE, 3};
@@ -145,8 +138,12 @@ public final class DataTest {
         check.refused("of none, cut(1)", BOUNDS, () -> z.cut(1));
         check.due("still verified", 1, () -> x.count(4));
         check.due("still 80", 80, () -> x.count(0));
-        x.cut(50);
+        check.due("cut(80) of 80", 0, () -> x.cut(80));
+        check.due("cut(50) of 80", 30, () -> x.cut(50));
         check.refused("what went is gone: cut(51)", BOUNDS, () -> x.cut(51));
+        check.due("cut(0) of 50", 50, () -> x.cut(0));
+        check.due("cut(240) of 240", 0, () -> y.cut(240));
+        check.due("cut(0) of none", 0, () -> z.cut(0));
     }
 
     private static void bytesOfData() {

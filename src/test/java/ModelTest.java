@@ -2,8 +2,10 @@ import java.util.Random;
 
 /** Runs of calls drawn from fixed seeds, answered by the program and by the model alike. */
 public final class ModelTest {
-    private static final int RUNS = 3000;
+    private static final int RUNS = 4000;
     private static final int CALLS = 512;
+    /** More calls than one step ever makes, the bytes that it may compare not counted. */
+    private static final int STEP = 20;
     private static final Check check = new Check("ModelTest");
 
     private final Random random;
@@ -58,15 +60,20 @@ public final class ModelTest {
         for (int i = 0; i < records; i++) {
             make(tables);
         }
-        for (int i = below(60); i > 0; i--) {
+        for (int i = below(60); i > 0 && hasRoomFor(STEP); i--) {
             give();
         }
-        while (calls < CALLS - 40) {
+        while (hasRoomFor(STEP)) {
             step(tables);
         }
         for (int what = 0; what < 6; what++) {
             count(what);
         }
+    }
+
+    /** Nothing is promised for a call behind the last one; the counts come at the end of a run. */
+    private boolean hasRoomFor(int more) {
+        return calls + more + 6 <= CALLS;
     }
 
     private void step(int tables) {
@@ -155,13 +162,13 @@ public final class ModelTest {
     private void build() {
         int record = near(Math.max(0, model.count(1) - 1));
         String size = both("build(" + record + ")", () -> store.build(record), () -> model.build(record));
-        if (!size.startsWith("throws")) {
+        if (!size.startsWith("throws") && oneIn(3) && hasRoomFor(model.count(0))) {
             sameBytes();
         }
     }
 
-    /** Not counted as calls: they change nothing. */
     private void sameBytes() {
+        calls += model.count(0);
         StringBuilder want = new StringBuilder();
         StringBuilder got = new StringBuilder();
         for (int i = 0; i < model.count(0); i++) {

@@ -11,33 +11,21 @@ public final class RecordsTest {
         {-1, 0}, {2, 0}, {15, 0}, {16, 0}, {Integer.MIN_VALUE, 0}, {Integer.MAX_VALUE, 0},
         {1, -1}, {1, 6}, {1, 7}, {1, Integer.MIN_VALUE}, {1, Integer.MAX_VALUE}, {0, 0},
         {Integer.MAX_VALUE, Integer.MAX_VALUE}, {Integer.MIN_VALUE, Integer.MIN_VALUE}};
+    private static final int[] NO_RECORDS = {-1, 1, 2, 15, 16, Integer.MIN_VALUE, Integer.MAX_VALUE};
     private static final Check check = new Check("RecordsTest");
 
     public static void main(String[] args) {
-        numbersOfRecords();
-        nothingAtFirst();
-        lowestBits();
-        textsFromNoneToTwelve();
-        rowsFromNoneToEight();
-        linksToLowerOnes();
-        make();
-        makeOfNoTable();
-        makeTooMany();
-        number();
-        numbersApart();
-        numberNoSuch();
-        numberOfAnotherKind();
-        add();
-        addTooMany();
-        fill();
-        fillAgain();
-        fillNoSuch();
-        fillOfAnotherKind();
-        link();
-        linkNoSuch();
-        linkOfAnotherKind();
-        unset();
-        unsetNoSuch();
+        Runnable[] tests = {
+            RecordsTest::numbersOfRecords, RecordsTest::nothingAtFirst, RecordsTest::lowestBits,
+            RecordsTest::textsFromNoneToTwelve, RecordsTest::rowsFromNoneToEight,
+            RecordsTest::linksToLowerOnes, RecordsTest::make, RecordsTest::makeOfNoTable,
+            RecordsTest::makeTooMany, RecordsTest::number, RecordsTest::numbersApart,
+            RecordsTest::numberNoSuch, RecordsTest::numberOfAnotherKind, RecordsTest::add,
+            RecordsTest::addTooMany, RecordsTest::fill, RecordsTest::fillAgain,
+            RecordsTest::fillNoSuch, RecordsTest::fillOfAnotherKind, RecordsTest::link,
+            RecordsTest::linkNoSuch, RecordsTest::linkOfAnotherKind, RecordsTest::unset,
+            RecordsTest::unsetNoSuch};
+        check.all(tests);
         check.end();
     }
 
@@ -52,8 +40,17 @@ public final class RecordsTest {
         return x;
     }
 
+    /** Only record 0 was made; one more of its table would have the field too. */
+    private static FlatStore oneRecord(int kind) {
+        FlatStore x = new FlatStore();
+        x.field(0, kind, 0, false);
+        x.make(0);
+        return x;
+    }
+
     private static void numbersOfRecords() {
-        check.sentence("Terms", "RECORDS are numbered 0, 1, .. as they are made, at most 16, each of a table.");
+        check.sentence("Terms", "RECORDS are numbered 0, 1, .. as they are made, at most 16, each of a "
+            + "table.");
         FlatStore x = new FlatStore();
         for (int table = 0; table < 4; table++) {
             for (int i = 0; i <= table; i++) {
@@ -241,9 +238,13 @@ public final class RecordsTest {
         check.due("the short kept", 32767, () -> x.value(1));
         check.due("the int kept", Integer.MIN_VALUE, () -> x.value(2));
         check.due("the long kept", Long.MIN_VALUE, () -> x.value(3));
+        check.due("0 for the byte", 0, () -> x.number(1, 0, 256));
+        check.due("0 for the short", 0, () -> x.number(1, 1, 65536));
+        check.due("0 for the int", 0, () -> x.number(1, 2, 4294967296L));
         check.due("0 for the long", 0, () -> x.number(1, 3, 0));
         check.due("the data is as it was", Long.MIN_VALUE, () -> x.value(3));
         check.due("verified data stays verified", 1, () -> x.count(4));
+        check.due("the defaults are kept, which are not put", 12, () -> x.build(1));
     }
 
     private static void numbersApart() {
@@ -268,13 +269,18 @@ public final class RecordsTest {
         check.sentence("Promise 4", "NoSuchElementException: no such record or field.");
         FlatStore x = withKinds(0, 1, 2, 3, 2, 2);
         for (int[] row : NO_FIELDS) {
-            check.refused("record " + row[0] + ", field " + row[1], NO_SUCH, () -> x.number(row[0], row[1], 1));
+            check.refused("record " + row[0] + ", field " + row[1], NO_SUCH,
+                () -> x.number(row[0], row[1], 1));
         }
         check.due("the last field", 1, () -> x.number(1, 5, 1));
         x.make(1);
         check.due("the record made now", 1, () -> x.number(2, 0, 1));
-        FlatStore y = withKinds(0);
-        check.refused("field 1 of a table with one", NO_SUCH, () -> y.number(1, 1, 1));
+        FlatStore y = oneRecord(0);
+        for (int record : NO_RECORDS) {
+            check.refused("record " + record + " of one", NO_SUCH, () -> y.number(record, 0, 1));
+        }
+        check.refused("field 1 of one", NO_SUCH, () -> y.number(0, 1, 1));
+        check.due("record 0 of one", 1, () -> y.number(0, 0, 1));
     }
 
     private static void numberOfAnotherKind() {
@@ -393,6 +399,12 @@ public final class RecordsTest {
         }
         check.due("the buffer stays", 3, () -> x.count(3));
         check.due("the last field", 3, () -> x.fill(1, 5));
+        FlatStore y = oneRecord(4);
+        for (int record : NO_RECORDS) {
+            check.refused("record " + record + " of one", NO_SUCH, () -> y.fill(record, 0));
+        }
+        check.refused("field 1 of one", NO_SUCH, () -> y.fill(0, 1));
+        check.due("record 0 of one", 0, () -> y.fill(0, 0));
     }
 
     private static void fillOfAnotherKind() {
@@ -417,6 +429,11 @@ public final class RecordsTest {
         x.verify(1);
         check.due("the row stays", 8, () -> x.size(5));
         check.due("its last short too", 8, () -> x.element(5, 7));
+        FlatStore y = withKinds(4);
+        for (int i = 0; i < 12; i++) {
+            y.add(1);
+        }
+        check.due("12 for a text", 12, () -> y.fill(1, 0));
     }
 
     private static void link() {
@@ -458,6 +475,12 @@ public final class RecordsTest {
         }
         check.due("other 0", 1, () -> x.link(1, 5, 0));
         check.due("only that one is there", 0, () -> x.unset(1, 0));
+        FlatStore y = oneRecord(6);
+        for (int record : NO_RECORDS) {
+            check.refused("record " + record + " of one", NO_SUCH, () -> y.link(record, 0, 0));
+            check.refused("other " + record + " of one", NO_SUCH, () -> y.link(0, 0, record));
+        }
+        check.refused("field 1 of one", NO_SUCH, () -> y.link(0, 1, 0));
     }
 
     private static void linkOfAnotherKind() {
@@ -521,5 +544,11 @@ public final class RecordsTest {
             check.refused("record " + row[0] + ", field " + row[1], NO_SUCH, () -> x.unset(row[0], row[1]));
         }
         check.due("the last field", 0, () -> x.unset(1, 5));
+        FlatStore y = oneRecord(4);
+        for (int record : NO_RECORDS) {
+            check.refused("record " + record + " of one", NO_SUCH, () -> y.unset(record, 0));
+        }
+        check.refused("field 1 of one", NO_SUCH, () -> y.unset(0, 1));
+        check.due("record 0 of one", 0, () -> y.unset(0, 0));
     }
 }

@@ -11,17 +11,13 @@ public final class RefusedTest {
     private static final Check check = new Check("RefusedTest");
 
     public static void main(String[] args) {
-        orderOfSchemaAndRecords();
-        orderOfBuild();
-        orderOfReading();
-        schemaUnchanged();
-        recordsUnchanged();
-        dataUnchanged();
-        cursorUnchanged();
-        notVerifiedUnchanged();
-        faultUnchanged();
-        lastCalls();
-        manyRefusedCalls();
+        Runnable[] tests = {
+            RefusedTest::orderOfSchemaAndRecords, RefusedTest::orderOfBuild,
+            RefusedTest::orderOfReading, RefusedTest::schemaUnchanged,
+            RefusedTest::recordsUnchanged, RefusedTest::dataUnchanged, RefusedTest::cursorUnchanged,
+            RefusedTest::notVerifiedUnchanged, RefusedTest::faultUnchanged, RefusedTest::lastCalls,
+            RefusedTest::manyRefusedCalls};
+        check.all(tests);
         check.end();
     }
 
@@ -42,14 +38,16 @@ public final class RefusedTest {
         x.make(1);
         x.make(0);
         x.make(0);
-        for (int record = 3; record < 16; record++) {
+        for (int record = 3; record < 15; record++) {
             x.make(2);
         }
+        x.make(1);
         x.number(0, 0, 7);
         x.number(1, 0, 5);
         Sample.text(x, 1, 1, 3);
         Sample.text(x, 1, 2, 2);
         x.link(1, 3, 0);
+        x.link(2, 5, 1);
         x.number(1, 4, 9);
         for (int record = 3; record < 7; record++) {
             for (int field = 0; field < 5; field++) {
@@ -171,9 +169,11 @@ public final class RefusedTest {
         check.refused("not verified, another kind, no index", STATE, () -> x.element(0, 9));
         check.refused("not verified, no index", STATE, () -> x.element(1, 9));
         x.verify(0);
-        check.refused("no field, no index", NO_SUCH, () -> x.element(9, 9));
-        check.refused("another kind, no index", UNSUPPORTED, () -> x.element(0, 9));
-        check.refused("no index", BOUNDS, () -> x.element(1, 9));
+        for (int index : new int[] {-1, 9, Integer.MIN_VALUE, Integer.MAX_VALUE}) {
+            check.refused("no field, no index", NO_SUCH, () -> x.element(9, index));
+            check.refused("another kind, no index", UNSUPPORTED, () -> x.element(0, index));
+            check.refused("no index", BOUNDS, () -> x.element(1, index));
+        }
     }
 
     private static void schemaUnchanged() {
@@ -203,9 +203,9 @@ public final class RefusedTest {
         unchanged("link of no field", NO_SUCH, x -> x.link(1, 6, 0));
         unchanged("link to no record", NO_SUCH, x -> x.link(1, 3, 16));
         unchanged("link of a number", UNSUPPORTED, x -> x.link(1, 0, 0));
-        unchanged("link to another table", UNSUPPORTED, x -> x.link(1, 5, 0));
-        unchanged("link to a higher one", UNSUPPORTED, x -> x.link(1, 5, 2));
-        unchanged("link to itself", UNSUPPORTED, x -> x.link(1, 5, 1));
+        unchanged("link to another table", UNSUPPORTED, x -> x.link(2, 5, 0));
+        unchanged("link to a higher one", UNSUPPORTED, x -> x.link(2, 5, 3));
+        unchanged("link to itself", UNSUPPORTED, x -> x.link(2, 5, 2));
         unchanged("unset of no field", NO_SUCH, x -> x.unset(1, 6));
         unchanged("unset of no record", NO_SUCH, x -> x.unset(16, 0));
     }

@@ -10,20 +10,13 @@ public final class SchemaTest {
     private static final Check check = new Check("SchemaTest");
 
     public static void main(String[] args) {
-        tables();
-        fieldsOfATable();
-        kinds();
-        requiredOrNot();
-        newObject();
-        objectsApart();
-        fieldOfATable();
-        whatXIs();
-        outOfRange();
-        defaultsOutOfRange();
-        requiredNumbers();
-        fullTable();
-        recordsMadeBefore();
-        notVerifiedAnyMore();
+        Runnable[] tests = {
+            SchemaTest::tables, SchemaTest::fieldsOfATable, SchemaTest::kinds,
+            SchemaTest::requiredOrNot, SchemaTest::newObject, SchemaTest::objectsApart,
+            SchemaTest::fieldOfATable, SchemaTest::whatXIs, SchemaTest::outOfRange,
+            SchemaTest::defaultsOutOfRange, SchemaTest::requiredNumbers, SchemaTest::fullTable,
+            SchemaTest::recordsMadeBefore, SchemaTest::notVerifiedAnyMore};
+        check.all(tests);
         check.end();
     }
 

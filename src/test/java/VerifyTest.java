@@ -14,36 +14,18 @@ public final class VerifyTest {
     private static final Check check = new Check("VerifyTest");
 
     public static void main(String[] args) {
-        sizesOfData();
-        order();
-        orderWithin();
-        fourBytes();
-        firstTable();
-        otherTable();
-        sixteenTables();
-        sixWithinOneAnother();
-        placeOfOffsets();
-        sizeOfOffsets();
-        span();
-        offsetsThatAreTold();
-        requiredFields();
-        offsetsOfFields();
-        whatAFieldRefersTo();
-        texts();
-        longTexts();
-        rows();
-        longRows();
-        tablesWithin();
-        withoutSign();
-        endOfVerified();
-        notTheEndOfVerified();
-        verifiedAnew();
-        cursorAtTheFirst();
-        tablesGoneInto();
-        noTable();
-        faultOfVerify();
-        faultOfTheLast();
-        noFault();
+        Runnable[] tests = {
+            VerifyTest::sizesOfData, VerifyTest::order, VerifyTest::orderWithin,
+            VerifyTest::fourBytes, VerifyTest::firstTable, VerifyTest::otherTable,
+            VerifyTest::sixteenTables, VerifyTest::sixWithinOneAnother, VerifyTest::placeOfOffsets,
+            VerifyTest::sizeOfOffsets, VerifyTest::span, VerifyTest::offsetsThatAreTold,
+            VerifyTest::requiredFields, VerifyTest::offsetsOfFields, VerifyTest::whatAFieldRefersTo,
+            VerifyTest::texts, VerifyTest::longTexts, VerifyTest::rows, VerifyTest::longRows,
+            VerifyTest::tablesWithin, VerifyTest::withoutSign, VerifyTest::endOfVerified,
+            VerifyTest::notTheEndOfVerified, VerifyTest::verifiedAnew, VerifyTest::cursorAtTheFirst,
+            VerifyTest::tablesGoneInto, VerifyTest::noTable, VerifyTest::faultOfVerify,
+            VerifyTest::faultOfTheLast, VerifyTest::noFault};
+        check.all(tests);
         check.end();
     }
 
@@ -157,7 +139,8 @@ public final class VerifyTest {
     }
 
     private static void firstTable() {
-        check.sentence("Terms", "A TABLE at A (for R told at 0, for another one at the field that refers to it): "
+        check.sentence("Terms", "A TABLE at A (for R told at 0, for another one at the field that refers to "
+            + "it): "
             + "A a multiple of 4, A + 4 at most the size;");
         right("12", 1, plain());
         wrong("13", 0, plain().four(0, 13));
@@ -174,7 +157,8 @@ public final class VerifyTest {
     }
 
     private static void otherTable() {
-        check.sentence("Terms", "A TABLE at A (for R told at 0, for another one at the field that refers to it): "
+        check.sentence("Terms", "A TABLE at A (for R told at 0, for another one at the field that refers to "
+            + "it): "
             + "A a multiple of 4, A + 4 at most the size;");
         right("24", 2, referring(40, 24).table(24, 4), TABLE);
         wrong("25", 16, referring(40, 25).table(25, 4), TABLE);
@@ -346,7 +330,8 @@ public final class VerifyTest {
 
     /** The offset of each of six bytes is 1, which is wrong where it is told. */
     private static void offsetsThatAreTold() {
-        check.sentence("Terms", "For each field of the table, by rising numbers: its offset O at V + 4 + 2 field, "
+        check.sentence("Terms", "For each field of the table, by rising numbers: its offset O at V + 4 + 2 "
+            + "field, "
             + "if that is below V + S, else 0.");
         int[] bytes = {BYTE, BYTE, BYTE, BYTE, BYTE, BYTE};
         for (int field = 0; field < 6; field++) {
@@ -564,7 +549,8 @@ public final class VerifyTest {
     }
 
     private static void endOfVerified() {
-        check.sentence("Terms", "If nothing is wrong, the data is VERIFIED for the table until a build, patch, cut "
+        check.sentence("Terms", "If nothing is wrong, the data is VERIFIED for the table until a build, "
+            + "patch, cut "
             + "or field is called that does not throw, or a verify for a table 0 .. 3,");
         ended("build", x -> x.build(1));
         ended("build of another record", x -> x.build(0));
@@ -594,7 +580,8 @@ public final class VerifyTest {
     }
 
     private static void notTheEndOfVerified() {
-        check.sentence("Terms", "If nothing is wrong, the data is VERIFIED for the table until a build, patch, cut "
+        check.sentence("Terms", "If nothing is wrong, the data is VERIFIED for the table until a build, "
+            + "patch, cut "
             + "or field is called that does not throw, or a verify for a table 0 .. 3,");
         stayed("build of no record", x -> x.build(2));
         stayed("build without a required text", x -> {
@@ -624,6 +611,13 @@ public final class VerifyTest {
         stayed("element that is none", x -> x.element(1, 2));
         stayed("count", x -> x.count(0));
         stayed("count of another number", x -> x.count(6));
+        FlatStore y = Sample.large(0, 3, 7);
+        y.build(1);
+        y.verify(0);
+        Sample.text(y, 0, 1, 12);
+        check.refused("build of too much", IndexOutOfBoundsException.class, () -> y.build(1));
+        check.due("build of too much: still verified", 1, () -> y.count(4));
+        check.due("build of too much: it can be read", 12, () -> y.size(0));
     }
 
     private static void stayed(String what, Check.Deed deed) {
@@ -639,7 +633,8 @@ public final class VerifyTest {
     }
 
     private static void verifiedAnew() {
-        check.sentence("Terms", "If nothing is wrong, the data is VERIFIED for the table until a build, patch, cut "
+        check.sentence("Terms", "If nothing is wrong, the data is VERIFIED for the table until a build, "
+            + "patch, cut "
             + "or field is called that does not throw, or a verify for a table 0 .. 3,");
         FlatStore x = Sample.built();
         x.field(2, BYTE, 3, false);
@@ -727,7 +722,8 @@ public final class VerifyTest {
     }
 
     private static void faultOfVerify() {
-        check.sentence("Promise 14", "The address of the fault of the last verify that had one for a table 0 .. 3;");
+        check.sentence("Promise 14", "The address of the fault of the last verify that had one for a table "
+            + "0 .. 3;");
         FlatStore x = Sample.built();
         x.patch(8, 3);
         check.refused("verify", ARGUMENT, () -> x.verify(0));
@@ -752,7 +748,8 @@ public final class VerifyTest {
     }
 
     private static void faultOfTheLast() {
-        check.sentence("Promise 14", "The address of the fault of the last verify that had one for a table 0 .. 3;");
+        check.sentence("Promise 14", "The address of the fault of the last verify that had one for a table "
+            + "0 .. 3;");
         FlatStore x = Sample.built();
         x.field(2, TEXT, 0, true);
         check.refused("verify for table 2", ARGUMENT, () -> x.verify(2));
