@@ -12,7 +12,7 @@ final class Check {
 
     private final String name;
     private String words = "";
-    private int sentences;
+    private int tests;
     private int calls;
     private int callsOfSentence;
     private int wrong;
@@ -25,7 +25,7 @@ final class Check {
     void sentence(String section, String quoted) {
         needCalls();
         words = " (" + section + ": " + quoted + ")";
-        sentences++;
+        tests++;
         callsOfSentence = 0;
     }
 
@@ -44,7 +44,7 @@ final class Check {
 
     /** A sentence without an answer would be a test that cannot fail. */
     private void needCalls() {
-        if (sentences > 0 && callsOfSentence == 0) {
+        if (tests > 0 && callsOfSentence == 0) {
             wrong++;
             System.out.println(name + words + ": no answer was looked at");
         }
@@ -87,7 +87,7 @@ final class Check {
 
     void end() {
         needCalls();
-        System.out.println(name + ": " + sentences + " sentences, " + calls + " answers looked at, "
+        System.out.println(name + ": " + tests + " tests of sentences, " + calls + " answers looked at, "
             + wrong + " not as due");
         if (wrong != 0 || calls == 0) {
             System.exit(1);
