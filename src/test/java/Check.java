@@ -30,10 +30,10 @@ final class Check {
     }
 
     /** Each of the tests, though one before it could not go on. */
-    void all(Runnable... tests) {
-        for (Runnable test : tests) {
+    void all(Runnable... methods) {
+        for (Runnable method : methods) {
             try {
-                test.run();
+                method.run();
             } catch (RuntimeException e) {
                 wrong++;
                 callsOfSentence++;
